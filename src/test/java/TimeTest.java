@@ -1,0 +1,359 @@
+/** Promises 13, 14 and 21 to 25: times by tracks and by the van, appeals, points and the table. */
+public final class TimeTest {
+    private static final Check CHECK = new Check();
+    private static final int NONE = OriginRally.NONE;
+    private static final int LOWEST = Integer.MIN_VALUE, HIGHEST = Integer.MAX_VALUE;
+
+    public static void main(String[] args) {
+        promise13Record();
+        promise13Refusals();
+        promise14Appeal();
+        promise14Refusals();
+        promises21And22Order();
+        promises21And22MissedGates();
+        promises21And22LaterPass();
+        promises21And22Edges();
+        promise23Time();
+        promise24Points();
+        promise24Limits();
+        promise25Table();
+        refusedNumbers();
+        CHECK.end("TimeTest");
+    }
+
+    /** Both times by the track, by pieces and by minutes. */
+    private static void passes(OriginRally x, int car, int... due) {
+        for (int gate = 0; gate < due.length; gate++) {
+            CHECK.same("byTrack(" + car + ", " + gate + ")", due[gate], x.byTrack(car, gate));
+            CHECK.same("byMinutes(" + car + ", " + gate + ")", due[gate], x.byMinutes(car, gate));
+        }
+    }
+
+    /** A book that goes up by one cell an entry, with a gate at each, and one car. */
+    private static OriginRally straight(int entries, int allowed) {
+        OriginRally x = new OriginRally();
+        for (int entry = 0; entry < entries; entry++) {
+            x.addEntry(1, 0);
+            x.addGate(entry, allowed);
+        }
+        x.enter();
+        return x;
+    }
+
+    private static void promise13Record() {
+        OriginRally x = straight(2, 0);
+        x.enter();
+        CHECK.same("not passed so far", NONE, x.record(0, 0, 0));
+        CHECK.same("in place of what was recorded", 0, x.record(0, 0, 10000));
+        CHECK.same("again", 10000, x.record(0, 0, 7));
+        CHECK.same("time", 7, x.time(0, 0));
+        CHECK.same("not at the other gate", NONE, x.time(0, 1));
+        CHECK.same("not of the other car", NONE, x.time(1, 0));
+        x.drive(0, 2, 0);
+        CHECK.same("what is recorded stays", 7, x.time(0, 0));
+        CHECK.same("passed by the track", 2, x.record(0, 1, 3));
+        CHECK.same("and recorded then", 3, x.time(0, 1));
+        passes(x, 0, 1, 2);
+        CHECK.same("a recorded time is no passing for later gates", 7, x.record(0, 0, 9000));
+        passes(x, 0, 1, 2);
+    }
+
+    private static void promise13Refusals() {
+        OriginRally x = straight(2, 0);
+        x.record(0, 0, 4);
+        for (int minute : new int[] {-1, 10001, LOWEST, HIGHEST}) {
+            CHECK.refuses("record(0, 0, " + minute + ")", x, Check.ARGUMENT, () -> x.record(0, 0, minute));
+        }
+        CHECK.refuses("no car ahead of the minute", x, Check.INDEX, () -> x.record(1, 0, -1));
+        CHECK.refuses("no gate ahead of the minute", x, Check.INDEX, () -> x.record(0, 2, -1));
+        CHECK.same("nothing was recorded", 4, x.time(0, 0));
+    }
+
+    private static void promise14Appeal() {
+        OriginRally x = straight(2, 0);
+        x.record(0, 0, 5);
+        CHECK.same("points by the van, and 60", 64, x.points(0));
+        CHECK.yes("it had not passed by its track", x.appeal(0, 0));
+        CHECK.same("what was recorded is dropped", NONE, x.time(0, 0));
+        CHECK.same("no points for it", 120, x.points(0));
+        x.drive(0, 1, 0);
+        x.record(0, 0, 1);
+        CHECK.yes("the time by the track: lost", !x.appeal(0, 0));
+        CHECK.same("what is recorded stays", 1, x.time(0, 0));
+        CHECK.same("10 points for it", 70, x.points(0));
+        CHECK.yes("lost again", !x.appeal(0, 0));
+        CHECK.same("10 points each time", 80, x.points(0));
+        x.record(0, 0, 2);
+        CHECK.yes("a minute beside it: not lost", x.appeal(0, 0));
+        CHECK.same("the lost ones are not given back", 80, x.points(0));
+        x.cut(0);
+        CHECK.same("nor if no gate counts", 20, x.points(0));
+        x.enter();
+        CHECK.same("the other car lost none", 0, x.points(1));
+    }
+
+    private static void promise14Refusals() {
+        OriginRally x = straight(2, 0);
+        x.enter();
+        CHECK.refuses("nothing recorded", x, Check.STATE, () -> x.appeal(0, 0));
+        x.drive(0, 1, 0);
+        CHECK.refuses("nothing recorded though passed", x, Check.STATE, () -> x.appeal(0, 0));
+        x.record(0, 0, 0);
+        CHECK.refuses("recorded at the other gate", x, Check.STATE, () -> x.appeal(0, 1));
+        CHECK.refuses("recorded for the other car", x, Check.STATE, () -> x.appeal(1, 0));
+        CHECK.yes("the minute 0 is recorded", x.appeal(0, 0));
+        CHECK.refuses("dropped already", x, Check.STATE, () -> x.appeal(0, 0));
+    }
+
+    private static void promises21And22Order() {
+        OriginRally x = new OriginRally();
+        x.setStart(16 * 8 + 8);
+        x.addEntry(3, 1);
+        x.addEntry(2, 1);
+        x.addEntry(3, 1);
+        x.addEntry(2, 1);
+        for (int entry = 0; entry < 4; entry++) {
+            x.addGate(entry, 0);
+        }
+        x.enter();
+        passes(x, 0, NONE, NONE, NONE, 0);
+        x.stand(0, 4);
+        x.drive(0, 3, 1);
+        passes(x, 0, 7, NONE, NONE, NONE);
+        x.drive(0, 2, 1);
+        passes(x, 0, 7, 9, NONE, NONE);
+        x.stand(0, 2);
+        x.drive(0, 3, 1);
+        passes(x, 0, 7, 9, 14, NONE);
+        x.drive(0, 2, 1);
+        passes(x, 0, 7, 9, 14, 16);
+        x.drive(0, 3, 1);
+        passes(x, 0, 7, 9, 14, 16);
+        x.enter();
+        x.drive(1, 5, 2);
+        passes(x, 1, 3, NONE, NONE, NONE);
+    }
+
+    private static void promises21And22MissedGates() {
+        OriginRally x = new OriginRally();
+        x.addEntry(2, 1);
+        x.addEntry(3, 2);
+        x.addEntry(3, 1);
+        x.addEntry(4, 2);
+        x.addGate(0, 0);
+        x.addGate(1, 0);
+        x.addGate(2, 0);
+        x.addGate(3, 0);
+        x.enter();
+        // The gate 1 is missed; the gate 2 lies in the cell of the gate 0, and is passed in the same minute.
+        x.drive(0, 2, 0);
+        passes(x, 0, 2, NONE, 2, NONE);
+        x.drive(0, 4, 0);
+        passes(x, 0, 2, NONE, 2, 6);
+        // Without the gate 0 nothing holds the later ones back.
+        OriginRally y = new OriginRally();
+        y.setStart(5);
+        y.addEntry(4, 2);
+        y.addEntry(3, 0);
+        y.addEntry(2, 0);
+        y.addGate(0, 0);
+        y.addGate(1, 0);
+        y.addGate(2, 0);
+        y.enter();
+        y.drive(0, 1, 2);
+        passes(y, 0, NONE, 1, NONE);
+        y.drive(0, 2, 0);
+        passes(y, 0, NONE, 1, 3);
+    }
+
+    private static void promises21And22LaterPass() {
+        OriginRally x = new OriginRally();
+        x.addEntry(3, 2);
+        x.addEntry(1, 0);
+        x.addGate(0, 0);
+        x.addGate(1, 0);
+        x.enter();
+        x.drive(0, 2, 0);
+        passes(x, 0, NONE, 2);
+        x.drive(0, 1, 2);
+        passes(x, 0, 3, NONE);
+        x.stand(0, 9);
+        x.drive(0, 2, 0);
+        passes(x, 0, 3, 13);
+        x.addEntry(2, 0);
+        x.addGate(2, 0);
+        passes(x, 0, 3, 13, NONE);
+        x.drive(0, 1, 0);
+        passes(x, 0, 3, 13, 15);
+    }
+
+    private static void promises21And22Edges() {
+        OriginRally x = new OriginRally();
+        x.setStart(16 * 3 + 3);
+        x.addEntry(1, 2);
+        x.addEntry(1, 2);
+        x.addGate(1, 0);
+        x.enter();
+        passes(x, 0, 0);
+        x.stand(0, 5);
+        x.drive(0, 1, 2);
+        passes(x, 0, 0);
+
+        OriginRally y = new OriginRally();
+        y.addEntry(5, 1);
+        y.addEntry(5, 2);
+        y.addEntry(2, 0);
+        y.addGate(0, 0);
+        y.addGate(1, 0);
+        y.addGate(2, 0);
+        y.enter();
+        y.drive(0, 15, 2);
+        y.drive(0, 10, 3);
+        passes(y, 0, 5, NONE, NONE);
+        y.drive(0, 15, 2);
+        // It saw the cell of the gate 2 two minutes ahead of that of the gate 1.
+        passes(y, 0, 5, 30, NONE);
+        y.drive(0, 15, 0);
+        passes(y, 0, 5, 30, 52);
+        y.enter();
+        // Standing in a gate's cell: the minute is the first in it that the gate ahead leaves.
+        y.drive(1, 5, 1);
+        y.stand(1, 40);
+        y.drive(1, 5, 2);
+        y.stand(1, 3);
+        y.drive(1, 5, 0);
+        passes(y, 1, 5, 50, 55);
+        CHECK.same("its clock", 58, y.clock(1));
+
+        OriginRally z = new OriginRally();
+        z.addEntry(4, 2);
+        z.addEntry(2, 2);
+        z.addEntry(2, 0);
+        z.addGate(0, 0);
+        z.addGate(2, 0);
+        z.enter();
+        z.drive(0, 4, 0);
+        z.stand(0, 6);
+        passes(z, 0, 4, 4);
+        CHECK.looksChangeNothing(z);
+    }
+
+    private static void promise23Time() {
+        OriginRally x = straight(2, 0);
+        CHECK.same("not passed", NONE, x.time(0, 0));
+        x.drive(0, 1, 0);
+        CHECK.same("by the track", 1, x.time(0, 0));
+        x.record(0, 0, 30);
+        CHECK.same("by the van", 30, x.time(0, 0));
+        passes(x, 0, 1, NONE);
+        x.record(0, 1, 0);
+        CHECK.same("by the van though not passed", 0, x.time(0, 1));
+        passes(x, 0, 1, NONE);
+        x.appeal(0, 0);
+        CHECK.same("by the track again", 1, x.time(0, 0));
+        x.appeal(0, 1);
+        CHECK.same("not passed again", NONE, x.time(0, 1));
+    }
+
+    private static void promise24Points() {
+        OriginRally x = straight(3, 10);
+        CHECK.same("absent at all", 180, x.points(0));
+        x.stand(0, 10);
+        x.drive(0, 3, 0);
+        CHECK.same("in time at all", 0, x.points(0));
+        x.record(0, 0, 10);
+        CHECK.same("a minute early", 2, x.points(0));
+        x.record(0, 1, 13);
+        CHECK.same("and one late", 3, x.points(0));
+        x.record(0, 2, 0);
+        CHECK.same("and 13 early", 29, x.points(0));
+        x.enter();
+        x.record(1, 0, 11);
+        CHECK.same("recorded, so not absent", 120, x.points(1));
+    }
+
+    private static void promise24Limits() {
+        OriginRally x = straight(1, 100);
+        x.record(0, 0, 101 + 59);
+        CHECK.same("59 late", 59, x.points(0));
+        x.record(0, 0, 101 + 60);
+        CHECK.same("60 late", 60, x.points(0));
+        x.record(0, 0, 101 + 61);
+        CHECK.same("61 late", 60, x.points(0));
+        x.record(0, 0, 10000);
+        CHECK.same("far too late", 60, x.points(0));
+        x.record(0, 0, 101 - 29);
+        CHECK.same("29 early", 58, x.points(0));
+        x.record(0, 0, 101 - 30);
+        CHECK.same("30 early", 60, x.points(0));
+        x.record(0, 0, 101 - 31);
+        CHECK.same("31 early", 60, x.points(0));
+        x.record(0, 0, 0);
+        CHECK.same("far too early", 60, x.points(0));
+        x.record(0, 0, 101);
+        CHECK.same("in time", 0, x.points(0));
+        OriginRally y = straight(10, 0);
+        CHECK.same("all ten are missed", 600, y.points(0));
+        y.drive(0, 1, 0);
+        y.record(0, 0, 1);
+        y.appeal(0, 0);
+        CHECK.same("lost appeals are over and above", 550, y.points(0));
+    }
+
+    private static void table(OriginRally x, int... due) {
+        for (int place = 0; place < due.length; place++) {
+            CHECK.same("table(" + place + ")", due[place], x.table(place));
+        }
+    }
+
+    private static void promise25Table() {
+        OriginRally x = straight(1, 50);
+        CHECK.same("one car", 0, x.table(0));
+        CHECK.refuses("table(1) of one", x, Check.INDEX, () -> x.table(1));
+        x.enter();
+        x.enter();
+        x.enter();
+        table(x, 0, 1, 2, 3);
+        x.record(2, 0, 51);
+        table(x, 2, 0, 1, 3);
+        x.record(3, 0, 50);
+        table(x, 2, 3, 0, 1);
+        x.record(1, 0, 53);
+        table(x, 2, 1, 3, 0);
+        x.record(0, 0, 51);
+        table(x, 0, 2, 1, 3);
+        x.cut(0);
+        table(x, 0, 1, 2, 3);
+        x.drive(0, 1, 0);
+        x.record(0, 0, 1);
+        x.appeal(0, 0);
+        table(x, 1, 2, 3, 0);
+        for (int place : new int[] {-1, 4, 8, LOWEST, HIGHEST}) {
+            CHECK.refuses("table(" + place + ")", x, Check.INDEX, () -> x.table(place));
+        }
+        for (int car = 4; car < 8; car++) {
+            x.enter();
+        }
+        table(x, 1, 2, 3, 4, 5, 6, 7, 0);
+        x.cut(1);
+        table(x, 2, 1, 3, 4, 5, 6, 7, 0);
+        CHECK.refuses("table(8) of eight", x, Check.INDEX, () -> x.table(8));
+    }
+
+    private static void refusedNumbers() {
+        OriginRally x = straight(2, 0);
+        for (int wrong : new int[] {-2, -1, 2, 10, LOWEST, HIGHEST}) {
+            CHECK.refuses("record, car " + wrong, x, Check.INDEX, () -> x.record(wrong, 0, 0));
+            CHECK.refuses("record, gate " + wrong, x, Check.INDEX, () -> x.record(0, wrong, 0));
+            CHECK.refuses("appeal, car " + wrong, x, Check.INDEX, () -> x.appeal(wrong, 0));
+            CHECK.refuses("appeal, gate " + wrong, x, Check.INDEX, () -> x.appeal(0, wrong));
+            CHECK.refuses("byTrack, car " + wrong, x, Check.INDEX, () -> x.byTrack(wrong, 0));
+            CHECK.refuses("byTrack, gate " + wrong, x, Check.INDEX, () -> x.byTrack(0, wrong));
+            CHECK.refuses("byMinutes, car " + wrong, x, Check.INDEX, () -> x.byMinutes(wrong, 0));
+            CHECK.refuses("byMinutes, gate " + wrong, x, Check.INDEX, () -> x.byMinutes(0, wrong));
+            CHECK.refuses("time, car " + wrong, x, Check.INDEX, () -> x.time(wrong, 0));
+            CHECK.refuses("time, gate " + wrong, x, Check.INDEX, () -> x.time(0, wrong));
+            CHECK.refuses("points, car " + wrong, x, Check.INDEX, () -> x.points(wrong));
+        }
+    }
+}
