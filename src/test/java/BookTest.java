@@ -107,6 +107,7 @@ public final class BookTest {
         }
         CHECK.refuses("a 31st entry", x, Check.STATE, () -> x.addEntry(1, 0));
         CHECK.refuses("a 31st entry out of range", x, Check.ARGUMENT, () -> x.addEntry(0, 0));
+        CHECK.refuses("a gate at the 31st", x, Check.INDEX, () -> x.addGate(30, 0));
         CHECK.same("a gate at the 30th", 0, x.addGate(29, 100));
         CHECK.same("due there", 550, x.due(0));
         CHECK.same("its cell", 0, x.cellOf(0));
@@ -146,6 +147,11 @@ public final class BookTest {
         CHECK.refuses("an 11th gate at an entry ahead", x, Check.ARGUMENT, () -> x.addGate(9, 0));
         CHECK.refuses("an 11th gate at no entry", x, Check.INDEX, () -> x.addGate(12, 0));
         CHECK.same("gates", 10, x.gates());
+        CHECK.same("due at the last", 10, x.due(9));
+        for (int gate : new int[] {-1, 10, 11, LOWEST, HIGHEST}) {
+            CHECK.refuses("cellOf(" + gate + ") of ten", x, Check.INDEX, () -> x.cellOf(gate));
+            CHECK.refuses("due(" + gate + ") of ten", x, Check.INDEX, () -> x.due(gate));
+        }
     }
 
     private static void promise5Cut() {

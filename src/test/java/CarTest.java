@@ -48,6 +48,8 @@ public final class CarTest {
             CHECK.same("so y grew", 78, x.cellAt(car, 1));
         }
         CHECK.refuses("a ninth car", x, Check.STATE, x::enter);
+        CHECK.refuses("clock(8) of eight", x, Check.INDEX, () -> x.clock(8));
+        CHECK.refuses("clock(-1) of eight", x, Check.INDEX, () -> x.clock(-1));
         CHECK.same("the eighth has a track of its own", 3, x.drive(7, 2, 0));
         CHECK.same("and the seventh", 1, x.clock(6));
     }
@@ -274,6 +276,18 @@ public final class CarTest {
         y.drive(1, 3, 0);
         y.drive(1, 0, 1);
         CHECK.same("a turn for itself is another one", 0, y.followed(1));
+
+        OriginRally full = withTwoCars(0);
+        for (int entry = 0; entry < 30; entry++) {
+            full.addEntry(1 + entry / 2, 2);
+            full.drive(0, 1 + entry / 2, 2);
+            full.stand(0, 1);
+        }
+        CHECK.same("all thirty entries, sixty pieces", 30, full.followed(0));
+        for (int piece = 0; piece < 31; piece++) {
+            full.drive(1, 1 + piece / 2 % 15, 2);
+        }
+        CHECK.same("thirty entries and one beyond", 30, full.followed(1));
 
         OriginRally z = withTwoCars(0);
         z.drive(0, 1, 0);

@@ -42,6 +42,10 @@ public final class PartTest {
         CHECK.refuses("a 41st part of no kind", x, Check.INDEX, () -> x.bring(4, TENT));
         CHECK.refuses("a 41st part of no car", x, Check.INDEX, () -> x.bring(0, 2));
         CHECK.same("the 40th", -1, x.where(39));
+        for (int part : new int[] {-1, 40, 41, LOWEST, HIGHEST}) {
+            CHECK.refuses("where(" + part + ") of forty", x, Check.INDEX, () -> x.where(part));
+            CHECK.refuses("hand(" + part + ", TENT) of forty", x, Check.INDEX, () -> x.hand(part, TENT));
+        }
         x.breakDown(1, 3);
         CHECK.same("its kind is the one told", 1, x.mend(1));
         CHECK.refuses("a part used up counts all the same", x, Check.STATE, () -> x.bring(0, TENT));

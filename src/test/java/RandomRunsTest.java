@@ -61,6 +61,9 @@ public final class RandomRunsTest {
             setStart(number(0, 256));
             calls++;
         }
+        if (style == 0) {
+            calls += nearTheLimits();
+        }
         while (calls < CALLS && wrong == 0) {
             one();
             calls++;
@@ -74,6 +77,45 @@ public final class RandomRunsTest {
                 passed += rally.byTrack(car, gate) > 0 ? 1 : 0;
             }
         }
+    }
+
+    /** A long book with many gates, up to eight cars and many parts, so that the rest of the run meets the limits. */
+    private int nearTheLimits() {
+        int calls = 0;
+        for (int car = below(9); car > 0; car--) {
+            cars += same("enter()", rally::enter, slow::enter) ? 1 : 0;
+            calls++;
+        }
+        for (int entry = below(60); entry > 0; entry--) {
+            addEntry(number(1, 6), number(0, 4));
+            calls++;
+            if (inTen(3)) {
+                addGate(written.size() - 1, number(0, 20));
+                calls++;
+            }
+        }
+        for (int part = below(42); part > 0; part--) {
+            bring(below(4), below(cars + 1) - 1);
+            calls++;
+        }
+        return calls;
+    }
+
+    private void addEntry(int cells, int turn) {
+        if (same("addEntry(" + cells + ", " + turn + ")", () -> rally.addEntry(cells, turn),
+                () -> slow.addEntry(cells, turn))) {
+            written.add(new int[] {cells, turn});
+        }
+    }
+
+    private void addGate(int entry, int allowed) {
+        same("addGate(" + entry + ", " + allowed + ")", () -> rally.addGate(entry, allowed),
+                () -> slow.addGate(entry, allowed));
+    }
+
+    private void bring(int kind, int owner) {
+        parts += same("bring(" + kind + ", " + owner + ")", () -> rally.bring(kind, owner),
+                () -> slow.bring(kind, owner)) ? 1 : 0;
     }
 
     private void setStart(int cell) {
@@ -100,17 +142,10 @@ public final class RandomRunsTest {
     private void book() {
         int chosen = below(10);
         if (chosen < 6) {
-            int cells = number(1, style == 1 ? 2 : inTen(3) ? 15 : 4);
-            int turn = number(0, style == 3 ? 2 : 4);
-            if (same("addEntry(" + cells + ", " + turn + ")", () -> rally.addEntry(cells, turn),
-                    () -> slow.addEntry(cells, turn))) {
-                written.add(new int[] {cells, turn});
-            }
+            addEntry(number(1, style == 1 ? 2 : inTen(3) ? 15 : 4), number(0, style == 3 ? 2 : 4));
         } else if (chosen < 9) {
             int entry = inTen(5) ? written.size() - 1 : number(0, written.size());
-            int allowed = number(0, inTen(2) ? 101 : 8);
-            same("addGate(" + entry + ", " + allowed + ")", () -> rally.addGate(entry, allowed),
-                    () -> slow.addGate(entry, allowed));
+            addGate(entry, number(0, inTen(2) ? 101 : 8));
         } else if (inTen(5)) {
             int gates = number(0, 11);
             same("cut(" + gates + ")", () -> rally.cut(gates), () -> slow.cut(gates));
@@ -144,8 +179,7 @@ public final class RandomRunsTest {
         int chosen = below(10);
         int kind = number(0, style == 2 ? 4 : 2);
         if (chosen < 2) {
-            parts += same("bring(" + kind + ", " + (car - 1) + ")", () -> rally.bring(kind, car - 1),
-                    () -> slow.bring(kind, car - 1)) ? 1 : 0;
+            bring(kind, car - 1);
         } else if (chosen < 6) {
             int part = number(0, parts);
             int to = number(-1, cars + 1);

@@ -16,6 +16,8 @@ public final class TimeTest {
         promise23Time();
         promise24Points();
         promise24Limits();
+        promise24ByTrack();
+        allTenGates();
         promise25Table();
         refusedNumbers();
         CHECK.end("TimeTest");
@@ -198,6 +200,11 @@ public final class TimeTest {
         x.stand(0, 5);
         x.drive(0, 1, 2);
         passes(x, 0, 0);
+        x.enter();
+        x.drive(1, 0, 1);
+        passes(x, 1, 0);
+        x.drive(1, 2, 2);
+        passes(x, 1, 0);
 
         OriginRally y = new OriginRally();
         y.addEntry(5, 1);
@@ -298,6 +305,61 @@ public final class TimeTest {
         y.record(0, 0, 1);
         y.appeal(0, 0);
         CHECK.same("lost appeals are over and above", 550, y.points(0));
+    }
+
+    private static void promise24ByTrack() {
+        OriginRally x = new OriginRally();
+        x.addEntry(3, 2);
+        x.addEntry(1, 0);
+        x.addEntry(2, 0);
+        x.addGate(0, 0);
+        x.addGate(1, 0);
+        x.addGate(2, 0);
+        x.enter();
+        CHECK.same("the gate in the start's cell is passed at 0, due at 6", 60 + 60 + 12, x.points(0));
+        x.drive(0, 2, 0);
+        CHECK.same("the gate 1 is passed at 2, due at 4", 60 + 4 + 60, x.points(0));
+        x.drive(0, 1, 2);
+        CHECK.same("the gate 0 takes that pass away", 0 + 60 + 60, x.points(0));
+        x.stand(0, 5);
+        x.drive(0, 3, 0);
+        CHECK.same("then both are late by 5", 0 + 5 + 5, x.points(0));
+        x.record(0, 0, 10000);
+        CHECK.same("a recorded time holds no gate back", 60 + 5 + 5, x.points(0));
+
+        OriginRally y = new OriginRally();
+        y.addEntry(1, 2);
+        y.addEntry(1, 2);
+        y.addGate(1, 0);
+        y.enter();
+        y.drive(0, 1, 2);
+        y.drive(0, 1, 2);
+        CHECK.same("passed at 0, two minutes early", 4, y.points(0));
+    }
+
+    private static void allTenGates() {
+        OriginRally x = straight(10, 0);
+        x.drive(0, 10, 0);
+        for (int gate = 0; gate < 10; gate++) {
+            CHECK.same("by the track at " + gate, gate + 1, x.record(0, gate, 20 + gate));
+        }
+        for (int gate = 0; gate < 10; gate++) {
+            CHECK.same("by the van at " + gate, 20 + gate, x.time(0, gate));
+        }
+        CHECK.same("each is 19 late", 190, x.points(0));
+        for (int gate = 9; gate >= 0; gate--) {
+            int asked = gate;
+            CHECK.yes("appeal at " + gate, x.appeal(0, gate));
+            CHECK.refuses("appeal again at " + gate, x, Check.STATE, () -> x.appeal(0, asked));
+            CHECK.same("points then", 19 * gate, x.points(0));
+        }
+        for (int gate : new int[] {-1, 10, 11, LOWEST, HIGHEST}) {
+            CHECK.refuses("byTrack(0, " + gate + ") of ten", x, Check.INDEX, () -> x.byTrack(0, gate));
+            CHECK.refuses("byMinutes(0, " + gate + ") of ten", x, Check.INDEX, () -> x.byMinutes(0, gate));
+            CHECK.refuses("time(0, " + gate + ") of ten", x, Check.INDEX, () -> x.time(0, gate));
+            CHECK.refuses("record(0, " + gate + ", 1) of ten", x, Check.INDEX, () -> x.record(0, gate, 1));
+            CHECK.refuses("appeal(0, " + gate + ") of ten", x, Check.INDEX, () -> x.appeal(0, gate));
+        }
     }
 
     private static void table(OriginRally x, int... due) {
