@@ -17,49 +17,49 @@ public final class BookTest {
     }
 
     private static void promise1New() {
-        OriginRally x = new OriginRally();
+        Replay x = new Replay();
         CHECK.same("gates of a new one", 0, x.gates());
-        CHECK.refuses("cellOf(0) of a new one", x, Check.INDEX, () -> x.cellOf(0));
-        CHECK.refuses("addGate(0, 0) without entries", x, Check.INDEX, () -> x.addGate(0, 0));
-        CHECK.refuses("clock(0) of a new one", x, Check.INDEX, () -> x.clock(0));
-        CHECK.refuses("table(0) of a new one", x, Check.INDEX, () -> x.table(0));
-        CHECK.refuses("where(0) of a new one", x, Check.INDEX, () -> x.where(0));
+        CHECK.refuses("cellOf(0) of a new one", x, Check.INDEX, r -> r.cellOf(0));
+        CHECK.refuses("addGate(0, 0) without entries", x, Check.INDEX, r -> r.addGate(0, 0));
+        CHECK.refuses("clock(0) of a new one", x, Check.INDEX, r -> r.clock(0));
+        CHECK.refuses("table(0) of a new one", x, Check.INDEX, r -> r.table(0));
+        CHECK.refuses("where(0) of a new one", x, Check.INDEX, r -> r.where(0));
         CHECK.same("the start of a new one", 0, x.setStart(0));
         CHECK.same("the first entry ends", 15, x.addEntry(15, 0));
         CHECK.same("the first car", 0, x.enter());
         CHECK.same("the first part", 0, x.bring(0, OriginRally.TENT));
-        OriginRally other = new OriginRally();
+        Replay other = new Replay();
         CHECK.same("gates of another new one", 0, other.gates());
         CHECK.same("its first car", 0, other.enter());
     }
 
     private static void promise2SetStart() {
-        OriginRally x = new OriginRally();
+        Replay x = new Replay();
         CHECK.same("setStart(255)", 0, x.setStart(255));
         CHECK.same("setStart(17)", 255, x.setStart(17));
         for (int cell : new int[] {-1, 256, LOWEST, HIGHEST}) {
-            CHECK.refuses("setStart(" + cell + ")", x, Check.ARGUMENT, () -> x.setStart(cell));
+            CHECK.refuses("setStart(" + cell + ")", x, Check.ARGUMENT, r -> r.setStart(cell));
         }
         CHECK.same("setStart(18)", 17, x.setStart(18));
         CHECK.same("the book begins there", 21, x.addEntry(3, 0));
-        CHECK.refuses("setStart with an entry", x, Check.STATE, () -> x.setStart(0));
-        CHECK.refuses("setStart(256) with an entry", x, Check.ARGUMENT, () -> x.setStart(256));
+        CHECK.refuses("setStart with an entry", x, Check.STATE, r -> r.setStart(0));
+        CHECK.refuses("setStart(256) with an entry", x, Check.ARGUMENT, r -> r.setStart(256));
         CHECK.same("the car begins there", 18, x.cellAt(x.enter(), 0));
 
-        OriginRally y = new OriginRally();
+        Replay y = new Replay();
         y.setStart(33);
         y.enter();
-        CHECK.refuses("setStart with a car", y, Check.STATE, () -> y.setStart(0));
-        CHECK.refuses("setStart(-1) with a car", y, Check.ARGUMENT, () -> y.setStart(-1));
+        CHECK.refuses("setStart with a car", y, Check.STATE, r -> r.setStart(0));
+        CHECK.refuses("setStart(-1) with a car", y, Check.ARGUMENT, r -> r.setStart(-1));
         CHECK.same("the book begins at the start still", 34, y.addEntry(1, 0));
 
-        OriginRally z = new OriginRally();
+        Replay z = new Replay();
         z.bring(0, OriginRally.TENT);
         CHECK.same("a part does not hinder setStart", 0, z.setStart(5));
     }
 
     private static void promise3AddEntry() {
-        OriginRally x = new OriginRally();
+        Replay x = new Replay();
         x.setStart(16 * 5 + 5);
         CHECK.same("heading 0", 16 * 5 + 7, x.addEntry(2, 1));
         CHECK.same("heading 1", 16 * 8 + 7, x.addEntry(3, 1));
@@ -71,61 +71,61 @@ public final class BookTest {
         CHECK.same("behind three quarters, from 2 to 1", 16 * 5 + 1, x.addEntry(1, 3));
         CHECK.same("behind three quarters, from 1 to 0", 16 * 5 + 15, x.addEntry(14, 0));
         for (int cells : new int[] {0, -1, 16, LOWEST, HIGHEST}) {
-            CHECK.refuses("addEntry(" + cells + ", 0)", x, Check.ARGUMENT, () -> x.addEntry(cells, 0));
+            CHECK.refuses("addEntry(" + cells + ", 0)", x, Check.ARGUMENT, r -> r.addEntry(cells, 0));
         }
         for (int turn : new int[] {-1, 4, LOWEST, HIGHEST}) {
-            CHECK.refuses("addEntry(1, " + turn + ")", x, Check.ARGUMENT, () -> x.addEntry(1, turn));
+            CHECK.refuses("addEntry(1, " + turn + ")", x, Check.ARGUMENT, r -> r.addEntry(1, turn));
         }
     }
 
     private static void promise3OffTheGround() {
         for (int heading = 0; heading < 4; heading++) {
-            OriginRally x = new OriginRally();
+            Replay x = new Replay();
             x.setStart(16 * 8 + 8);
             // A stretch of one cell on and one back leaves the cell as it is, with any heading.
             x.addEntry(1, 2);
             x.addEntry(1, (2 + heading) % 4);
             boolean towardsGreater = heading < 2;
             int room = towardsGreater ? 7 : 8;
-            CHECK.refuses("off the ground, heading " + heading, x, Check.STATE, () -> x.addEntry(room + 1, 0));
-            CHECK.refuses("far off the ground, heading " + heading, x, Check.STATE, () -> x.addEntry(15, 0));
+            CHECK.refuses("off the ground, heading " + heading, x, Check.STATE, r -> r.addEntry(room + 1, 0));
+            CHECK.refuses("far off the ground, heading " + heading, x, Check.STATE, r -> r.addEntry(15, 0));
             int step = heading % 2 == 0 ? 1 : 16;
             int due = 16 * 8 + 8 + (towardsGreater ? room * step : -room * step);
             CHECK.same("to the edge, heading " + heading, due, x.addEntry(room, 2));
             CHECK.same("and back", due + (towardsGreater ? -step : step), x.addEntry(1, 0));
         }
-        OriginRally y = new OriginRally();
+        Replay y = new Replay();
         y.setStart(15);
-        CHECK.refuses("out of range ahead of off the ground", y, Check.ARGUMENT, () -> y.addEntry(1, 4));
-        CHECK.refuses("at the edge", y, Check.STATE, () -> y.addEntry(1, 0));
+        CHECK.refuses("out of range ahead of off the ground", y, Check.ARGUMENT, r -> r.addEntry(1, 4));
+        CHECK.refuses("at the edge", y, Check.STATE, r -> r.addEntry(1, 0));
     }
 
     private static void promise3Thirty() {
-        OriginRally x = new OriginRally();
+        Replay x = new Replay();
         for (int entry = 0; entry < 30; entry++) {
             CHECK.same("entry " + entry, entry % 2 == 0 ? 15 : 0, x.addEntry(15, 2));
         }
-        CHECK.refuses("a 31st entry", x, Check.STATE, () -> x.addEntry(1, 0));
-        CHECK.refuses("a 31st entry out of range", x, Check.ARGUMENT, () -> x.addEntry(0, 0));
-        CHECK.refuses("a gate at the 31st", x, Check.INDEX, () -> x.addGate(30, 0));
+        CHECK.refuses("a 31st entry", x, Check.STATE, r -> r.addEntry(1, 0));
+        CHECK.refuses("a 31st entry out of range", x, Check.ARGUMENT, r -> r.addEntry(0, 0));
+        CHECK.refuses("a gate at the 31st", x, Check.INDEX, r -> r.addGate(30, 0));
         CHECK.same("a gate at the 30th", 0, x.addGate(29, 100));
         CHECK.same("due there", 550, x.due(0));
         CHECK.same("its cell", 0, x.cellOf(0));
     }
 
     private static void promise4AddGate() {
-        OriginRally x = new OriginRally();
+        Replay x = new Replay();
         x.addEntry(3, 1);
         x.addEntry(2, 0);
         x.addEntry(4, 0);
-        CHECK.refuses("addGate(3, 0)", x, Check.INDEX, () -> x.addGate(3, 0));
-        CHECK.refuses("addGate(-1, 0)", x, Check.INDEX, () -> x.addGate(-1, 0));
-        CHECK.refuses("addGate(3, 101)", x, Check.INDEX, () -> x.addGate(3, 101));
-        CHECK.refuses("addGate(0, 101)", x, Check.ARGUMENT, () -> x.addGate(0, 101));
-        CHECK.refuses("addGate(0, -1)", x, Check.ARGUMENT, () -> x.addGate(0, -1));
+        CHECK.refuses("addGate(3, 0)", x, Check.INDEX, r -> r.addGate(3, 0));
+        CHECK.refuses("addGate(-1, 0)", x, Check.INDEX, r -> r.addGate(-1, 0));
+        CHECK.refuses("addGate(3, 101)", x, Check.INDEX, r -> r.addGate(3, 101));
+        CHECK.refuses("addGate(0, 101)", x, Check.ARGUMENT, r -> r.addGate(0, 101));
+        CHECK.refuses("addGate(0, -1)", x, Check.ARGUMENT, r -> r.addGate(0, -1));
         CHECK.same("addGate(1, 100)", 0, x.addGate(1, 100));
-        CHECK.refuses("addGate(1, 0) again", x, Check.ARGUMENT, () -> x.addGate(1, 0));
-        CHECK.refuses("addGate(0, 0) behind it", x, Check.ARGUMENT, () -> x.addGate(0, 0));
+        CHECK.refuses("addGate(1, 0) again", x, Check.ARGUMENT, r -> r.addGate(1, 0));
+        CHECK.refuses("addGate(0, 0) behind it", x, Check.ARGUMENT, r -> r.addGate(0, 0));
         CHECK.same("addGate(2, 0)", 1, x.addGate(2, 0));
         CHECK.same("due(0)", 105, x.due(0));
         CHECK.same("due(1)", 9, x.due(1));
@@ -135,27 +135,27 @@ public final class BookTest {
     }
 
     private static void promise4Ten() {
-        OriginRally x = new OriginRally();
+        Replay x = new Replay();
         for (int entry = 0; entry < 12; entry++) {
             x.addEntry(1, 2);
         }
         for (int gate = 0; gate < 10; gate++) {
             CHECK.same("gate " + gate, gate, x.addGate(gate, 0));
         }
-        CHECK.refuses("an 11th gate", x, Check.STATE, () -> x.addGate(10, 0));
-        CHECK.refuses("an 11th gate, out of range", x, Check.ARGUMENT, () -> x.addGate(10, 101));
-        CHECK.refuses("an 11th gate at an entry ahead", x, Check.ARGUMENT, () -> x.addGate(9, 0));
-        CHECK.refuses("an 11th gate at no entry", x, Check.INDEX, () -> x.addGate(12, 0));
+        CHECK.refuses("an 11th gate", x, Check.STATE, r -> r.addGate(10, 0));
+        CHECK.refuses("an 11th gate, out of range", x, Check.ARGUMENT, r -> r.addGate(10, 101));
+        CHECK.refuses("an 11th gate at an entry ahead", x, Check.ARGUMENT, r -> r.addGate(9, 0));
+        CHECK.refuses("an 11th gate at no entry", x, Check.INDEX, r -> r.addGate(12, 0));
         CHECK.same("gates", 10, x.gates());
         CHECK.same("due at the last", 10, x.due(9));
         for (int gate : new int[] {-1, 10, 11, LOWEST, HIGHEST}) {
-            CHECK.refuses("cellOf(" + gate + ") of ten", x, Check.INDEX, () -> x.cellOf(gate));
-            CHECK.refuses("due(" + gate + ") of ten", x, Check.INDEX, () -> x.due(gate));
+            CHECK.refuses("cellOf(" + gate + ") of ten", x, Check.INDEX, r -> r.cellOf(gate));
+            CHECK.refuses("due(" + gate + ") of ten", x, Check.INDEX, r -> r.due(gate));
         }
     }
 
     private static void promise5Cut() {
-        OriginRally x = new OriginRally();
+        Replay x = new Replay();
         x.setStart(16);
         for (int entry = 0; entry < 3; entry++) {
             x.addEntry(1, 0);
@@ -167,10 +167,10 @@ public final class BookTest {
         CHECK.same("all count at first", 180, x.points(0));
         CHECK.same("cut(2)", 10, x.cut(2));
         CHECK.same("two count", 120, x.points(0));
-        CHECK.refuses("cut(11)", x, Check.ARGUMENT, () -> x.cut(11));
-        CHECK.refuses("cut(-1)", x, Check.ARGUMENT, () -> x.cut(-1));
-        CHECK.refuses("cut of the lowest", x, Check.ARGUMENT, () -> x.cut(LOWEST));
-        CHECK.refuses("cut of the highest", x, Check.ARGUMENT, () -> x.cut(HIGHEST));
+        CHECK.refuses("cut(11)", x, Check.ARGUMENT, r -> r.cut(11));
+        CHECK.refuses("cut(-1)", x, Check.ARGUMENT, r -> r.cut(-1));
+        CHECK.refuses("cut of the lowest", x, Check.ARGUMENT, r -> r.cut(LOWEST));
+        CHECK.refuses("cut of the highest", x, Check.ARGUMENT, r -> r.cut(HIGHEST));
         CHECK.same("cut(0)", 2, x.cut(0));
         CHECK.same("none counts", 0, x.points(0));
         CHECK.same("cut(7), more than there are", 0, x.cut(7));
@@ -190,7 +190,7 @@ public final class BookTest {
     }
 
     private static void promises15To17Gates() {
-        OriginRally x = new OriginRally();
+        Replay x = new Replay();
         x.setStart(16 * 2 + 3);
         x.addEntry(4, 1);
         x.addEntry(5, 1);
@@ -205,8 +205,8 @@ public final class BookTest {
         CHECK.same("due(0)", 13, x.due(0));
         CHECK.same("due(1)", 15, x.due(1));
         for (int gate : new int[] {-1, 2, 10, LOWEST, HIGHEST}) {
-            CHECK.refuses("cellOf(" + gate + ")", x, Check.INDEX, () -> x.cellOf(gate));
-            CHECK.refuses("due(" + gate + ")", x, Check.INDEX, () -> x.due(gate));
+            CHECK.refuses("cellOf(" + gate + ")", x, Check.INDEX, r -> r.cellOf(gate));
+            CHECK.refuses("due(" + gate + ")", x, Check.INDEX, r -> r.due(gate));
         }
         x.addEntry(1, 0);
         CHECK.same("later entries leave the due minute", 15, x.due(1));

@@ -22,22 +22,8 @@ public final class CarTest {
         CHECK.end("CarTest");
     }
 
-    private static OriginRally withTwoCars(int start) {
-        OriginRally x = new OriginRally();
-        x.setStart(start);
-        x.enter();
-        x.enter();
-        return x;
-    }
-
-    private static void fill(OriginRally x, int car, int pieces) {
-        for (int piece = 0; piece < pieces; piece++) {
-            x.drive(car, 1, 2);
-        }
-    }
-
     private static void promise6Enter() {
-        OriginRally x = new OriginRally();
+        Replay x = new Replay();
         x.setStart(77);
         for (int car = 0; car < 8; car++) {
             CHECK.same("enter()", car, x.enter());
@@ -47,15 +33,15 @@ public final class CarTest {
             CHECK.same("its heading is 0", 1, x.drive(car, 1, 1));
             CHECK.same("so y grew", 78, x.cellAt(car, 1));
         }
-        CHECK.refuses("a ninth car", x, Check.STATE, x::enter);
-        CHECK.refuses("clock(8) of eight", x, Check.INDEX, () -> x.clock(8));
-        CHECK.refuses("clock(-1) of eight", x, Check.INDEX, () -> x.clock(-1));
+        CHECK.refuses("a ninth car", x, Check.STATE, Replay::enter);
+        CHECK.refuses("clock(8) of eight", x, Check.INDEX, r -> r.clock(8));
+        CHECK.refuses("clock(-1) of eight", x, Check.INDEX, r -> r.clock(-1));
         CHECK.same("the eighth has a track of its own", 3, x.drive(7, 2, 0));
         CHECK.same("and the seventh", 1, x.clock(6));
     }
 
     private static void promise7Drive() {
-        OriginRally x = withTwoCars(16 * 5 + 5);
+        Replay x = Setup.withCars(2, 16 * 5 + 5);
         CHECK.same("drive(0, 3, 1)", 3, x.drive(0, 3, 1));
         CHECK.same("heading 1", 5, x.drive(0, 2, 1));
         CHECK.same("its cell", 16 * 7 + 8, x.cellAt(0, 5));
@@ -65,17 +51,17 @@ public final class CarTest {
         CHECK.same("its cell", 7, x.cellAt(0, 13));
         CHECK.same("turning takes no minute", 13, x.drive(0, 0, 3));
         CHECK.same("nor does a piece of nothing", 13, x.drive(0, 0, 0));
-        CHECK.refuses("its heading is 3 now", x, Check.STATE, () -> x.drive(0, 1, 0));
+        CHECK.refuses("its heading is 3 now", x, Check.STATE, r -> r.drive(0, 1, 0));
         CHECK.same("the other one did not move", 0, x.clock(1));
         for (int car : NO_CARS_OF_TWO) {
-            CHECK.refuses("drive(" + car + ", 1, 0)", x, Check.INDEX, () -> x.drive(car, 1, 0));
-            CHECK.refuses("drive(" + car + ", 16, 4)", x, Check.INDEX, () -> x.drive(car, 16, 4));
+            CHECK.refuses("drive(" + car + ", 1, 0)", x, Check.INDEX, r -> r.drive(car, 1, 0));
+            CHECK.refuses("drive(" + car + ", 16, 4)", x, Check.INDEX, r -> r.drive(car, 16, 4));
         }
         for (int cells : new int[] {-1, 16, LOWEST, HIGHEST}) {
-            CHECK.refuses("drive(0, " + cells + ", 0)", x, Check.ARGUMENT, () -> x.drive(0, cells, 0));
+            CHECK.refuses("drive(0, " + cells + ", 0)", x, Check.ARGUMENT, r -> r.drive(0, cells, 0));
         }
         for (int turn : new int[] {-1, 4, LOWEST, HIGHEST}) {
-            CHECK.refuses("drive(0, 0, " + turn + ")", x, Check.ARGUMENT, () -> x.drive(0, 0, turn));
+            CHECK.refuses("drive(0, 0, " + turn + ")", x, Check.ARGUMENT, r -> r.drive(0, 0, turn));
         }
     }
 
@@ -83,41 +69,41 @@ public final class CarTest {
         int[] room = {4, 12, 11, 3};
         int[] edge = {16 * 3 + 15, 16 * 15 + 11, 16 * 3, 11};
         for (int heading = 0; heading < 4; heading++) {
-            OriginRally x = withTwoCars(16 * 3 + 11);
+            Replay x = Setup.withCars(2, 16 * 3 + 11);
             x.drive(1, 0, heading);
             int most = room[heading];
-            CHECK.refuses("off the ground, heading " + heading, x, Check.STATE, () -> x.drive(1, most + 1, 0));
+            CHECK.refuses("off the ground, heading " + heading, x, Check.STATE, r -> r.drive(1, most + 1, 0));
             CHECK.same("to the edge, heading " + heading, most, x.drive(1, most, 0));
             CHECK.same("the edge, heading " + heading, edge[heading], x.cellAt(1, most));
-            CHECK.refuses("from the edge, heading " + heading, x, Check.STATE, () -> x.drive(1, 1, 0));
+            CHECK.refuses("from the edge, heading " + heading, x, Check.STATE, r -> r.drive(1, 1, 0));
             CHECK.same("a turn at the edge", most, x.drive(1, 0, 2));
             CHECK.same("and back", most + 1, x.drive(1, 1, 0));
         }
     }
 
     private static void promise7SixtyPieces() {
-        OriginRally x = withTwoCars(0);
-        fill(x, 0, 59);
+        Replay x = Setup.withCars(2, 0);
+        Setup.fill(x, 0, 59);
         CHECK.same("the 60th piece", 59, x.drive(0, 0, 0));
-        CHECK.refuses("a 61st piece", x, Check.STATE, () -> x.drive(0, 0, 0));
-        CHECK.refuses("a 61st piece out of range", x, Check.ARGUMENT, () -> x.drive(0, 16, 0));
-        CHECK.refuses("a 61st piece of standing", x, Check.STATE, () -> x.stand(0, 1));
-        CHECK.refuses("a 61st piece of standing out of range", x, Check.ARGUMENT, () -> x.stand(0, 0));
+        CHECK.refuses("a 61st piece", x, Check.STATE, r -> r.drive(0, 0, 0));
+        CHECK.refuses("a 61st piece out of range", x, Check.ARGUMENT, r -> r.drive(0, 16, 0));
+        CHECK.refuses("a 61st piece of standing", x, Check.STATE, r -> r.stand(0, 1));
+        CHECK.refuses("a 61st piece of standing out of range", x, Check.ARGUMENT, r -> r.stand(0, 0));
         CHECK.same("the other one has its own", 1, x.stand(1, 1));
         for (int piece = 1; piece < 60; piece++) {
             CHECK.same("standing is a piece", piece * 100 + 1, x.stand(1, 100));
         }
-        CHECK.refuses("a 61st piece behind standing", x, Check.STATE, () -> x.drive(1, 1, 0));
+        CHECK.refuses("a 61st piece behind standing", x, Check.STATE, r -> r.drive(1, 1, 0));
         CHECK.same("the longest clock", 5901, x.clock(1));
     }
 
     private static void promise7BrokenDown() {
-        OriginRally x = withTwoCars(0);
+        Replay x = Setup.withCars(2, 0);
         x.bring(0, 0);
         x.breakDown(0, 0);
-        CHECK.refuses("a broken car drives", x, Check.STATE, () -> x.drive(0, 1, 0));
-        CHECK.refuses("a broken car turns", x, Check.STATE, () -> x.drive(0, 0, 1));
-        CHECK.refuses("a broken car, out of range", x, Check.ARGUMENT, () -> x.drive(0, 1, 4));
+        CHECK.refuses("a broken car drives", x, Check.STATE, r -> r.drive(0, 1, 0));
+        CHECK.refuses("a broken car turns", x, Check.STATE, r -> r.drive(0, 0, 1));
+        CHECK.refuses("a broken car, out of range", x, Check.ARGUMENT, r -> r.drive(0, 1, 4));
         CHECK.same("the other one drives", 1, x.drive(1, 1, 0));
         CHECK.same("a broken car stands", 4, x.stand(0, 4));
         x.mend(0);
@@ -125,7 +111,7 @@ public final class CarTest {
     }
 
     private static void promise8Stand() {
-        OriginRally x = withTwoCars(33);
+        Replay x = Setup.withCars(2, 33);
         CHECK.same("stand(0, 1)", 1, x.stand(0, 1));
         CHECK.same("stand(0, 100)", 101, x.stand(0, 100));
         CHECK.same("it is where it was", 33, x.cellAt(0, 101));
@@ -134,36 +120,36 @@ public final class CarTest {
         CHECK.same("its heading is kept", 107, x.drive(0, 1, 0));
         CHECK.same("its cell", 33 + 2 + 16, x.cellAt(0, 107));
         for (int car : NO_CARS_OF_TWO) {
-            CHECK.refuses("stand(" + car + ", 1)", x, Check.INDEX, () -> x.stand(car, 1));
-            CHECK.refuses("stand(" + car + ", 0)", x, Check.INDEX, () -> x.stand(car, 0));
+            CHECK.refuses("stand(" + car + ", 1)", x, Check.INDEX, r -> r.stand(car, 1));
+            CHECK.refuses("stand(" + car + ", 0)", x, Check.INDEX, r -> r.stand(car, 0));
         }
         for (int minutes : new int[] {0, -1, 101, LOWEST, HIGHEST}) {
-            CHECK.refuses("stand(0, " + minutes + ")", x, Check.ARGUMENT, () -> x.stand(0, minutes));
+            CHECK.refuses("stand(0, " + minutes + ")", x, Check.ARGUMENT, r -> r.stand(0, minutes));
         }
         CHECK.same("the other one's clock", 0, x.clock(1));
     }
 
     private static void promise9BreakDown() {
-        OriginRally x = withTwoCars(0);
+        Replay x = Setup.withCars(2, 0);
         for (int car : NO_CARS_OF_TWO) {
-            CHECK.refuses("breakDown(" + car + ", 0)", x, Check.INDEX, () -> x.breakDown(car, 0));
+            CHECK.refuses("breakDown(" + car + ", 0)", x, Check.INDEX, r -> r.breakDown(car, 0));
         }
         for (int kind : new int[] {-1, 4, LOWEST, HIGHEST}) {
-            CHECK.refuses("breakDown(0, " + kind + ")", x, Check.INDEX, () -> x.breakDown(0, kind));
+            CHECK.refuses("breakDown(0, " + kind + ")", x, Check.INDEX, r -> r.breakDown(0, kind));
         }
         x.breakDown(0, 3);
         CHECK.yes("it is broken down", x.isBroken(0));
         CHECK.yes("the other one is not", !x.isBroken(1));
-        CHECK.refuses("it breaks down again", x, Check.STATE, () -> x.breakDown(0, 3));
-        CHECK.refuses("by another kind", x, Check.STATE, () -> x.breakDown(0, 0));
-        CHECK.refuses("by no kind", x, Check.INDEX, () -> x.breakDown(0, 4));
+        CHECK.refuses("it breaks down again", x, Check.STATE, r -> r.breakDown(0, 3));
+        CHECK.refuses("by another kind", x, Check.STATE, r -> r.breakDown(0, 0));
+        CHECK.refuses("by no kind", x, Check.INDEX, r -> r.breakDown(0, 4));
         x.breakDown(1, 0);
         CHECK.yes("the other one is, too", x.isBroken(1));
         CHECK.same("it takes no minute", 0, x.clock(0));
     }
 
     private static void promise10Mend() {
-        OriginRally x = withTwoCars(18);
+        Replay x = Setup.withCars(2, 18);
         int clock = 0;
         for (int kind = 0; kind < 4; kind++) {
             x.bring(kind, 1);
@@ -184,7 +170,7 @@ public final class CarTest {
         x.breakDown(0, 1);
         CHECK.same("the next one of the kind", 5, x.mend(0));
         x.breakDown(0, 1);
-        CHECK.refuses("none of the kind is left", x, Check.ELEMENT, () -> x.mend(0));
+        CHECK.refuses("none of the kind is left", x, Check.ELEMENT, r -> r.mend(0));
         CHECK.same("a part of another car", 1, x.hand(3, 0));
         CHECK.same("is used up", 3, x.mend(0));
         CHECK.same("the heading is kept", 43, x.drive(0, 1, 0));
@@ -192,35 +178,35 @@ public final class CarTest {
     }
 
     private static void promise10Refusals() {
-        OriginRally x = withTwoCars(0);
+        Replay x = Setup.withCars(2, 0);
         for (int car : NO_CARS_OF_TWO) {
-            CHECK.refuses("mend(" + car + ")", x, Check.INDEX, () -> x.mend(car));
+            CHECK.refuses("mend(" + car + ")", x, Check.INDEX, r -> r.mend(car));
         }
         x.bring(2, 0);
         x.bring(1, OriginRally.TENT);
-        CHECK.refuses("mend of a car that is not broken", x, Check.STATE, () -> x.mend(0));
+        CHECK.refuses("mend of a car that is not broken", x, Check.STATE, r -> r.mend(0));
         x.breakDown(0, 1);
-        CHECK.refuses("mend with a part of another kind", x, Check.ELEMENT, () -> x.mend(0));
+        CHECK.refuses("mend with a part of another kind", x, Check.ELEMENT, r -> r.mend(0));
         x.hand(1, 0);
         CHECK.same("mend with the tent's part", 1, x.mend(0));
-        CHECK.refuses("mend twice", x, Check.STATE, () -> x.mend(0));
-        fill(x, 1, 60);
+        CHECK.refuses("mend twice", x, Check.STATE, r -> r.mend(0));
+        Setup.fill(x, 1, 60);
         x.breakDown(1, 2);
-        CHECK.refuses("a full track ahead of no part", x, Check.STATE, () -> x.mend(1));
+        CHECK.refuses("a full track ahead of no part", x, Check.STATE, r -> r.mend(1));
         x.hand(0, 1);
-        CHECK.refuses("a full track", x, Check.STATE, () -> x.mend(1));
+        CHECK.refuses("a full track", x, Check.STATE, r -> r.mend(1));
         CHECK.same("the part is in it still", 1, x.where(0));
 
-        OriginRally y = withTwoCars(0);
+        Replay y = Setup.withCars(2, 0);
         y.bring(0, 0);
-        fill(y, 0, 59);
+        Setup.fill(y, 0, 59);
         y.breakDown(0, 0);
         CHECK.same("mending as the 60th piece", 0, y.mend(0));
-        CHECK.refuses("mending was a piece", y, Check.STATE, () -> y.stand(0, 1));
+        CHECK.refuses("mending was a piece", y, Check.STATE, r -> r.stand(0, 1));
     }
 
-    private static OriginRally withBook() {
-        OriginRally x = withTwoCars(16 * 8 + 8);
+    private static Replay withBook() {
+        Replay x = Setup.withCars(2, 16 * 8 + 8);
         x.addEntry(3, 1);
         x.addEntry(2, 1);
         x.addEntry(3, 1);
@@ -229,7 +215,7 @@ public final class CarTest {
     }
 
     private static void promise18Followed() {
-        OriginRally x = withBook();
+        Replay x = withBook();
         CHECK.same("without a track", 0, x.followed(0));
         x.drive(0, 3, 1);
         CHECK.same("one entry", 1, x.followed(0));
@@ -251,12 +237,12 @@ public final class CarTest {
         CHECK.same("and the track does not", 5, x.followed(0));
         CHECK.same("the other one", 0, x.followed(1));
         for (int car : NO_CARS_OF_TWO) {
-            CHECK.refuses("followed(" + car + ")", x, Check.INDEX, () -> x.followed(car));
+            CHECK.refuses("followed(" + car + ")", x, Check.INDEX, r -> r.followed(car));
         }
     }
 
     private static void promise18OnlyAhead() {
-        OriginRally x = withBook();
+        Replay x = withBook();
         x.stand(0, 3);
         x.drive(0, 3, 1);
         x.drive(0, 2, 0);
@@ -268,7 +254,7 @@ public final class CarTest {
         x.drive(1, 2, 1);
         CHECK.same("other cells though the same way", 0, x.followed(1));
 
-        OriginRally y = withBook();
+        Replay y = withBook();
         y.drive(0, 3, 1);
         y.drive(0, 0, 0);
         y.drive(0, 2, 1);
@@ -277,7 +263,7 @@ public final class CarTest {
         y.drive(1, 0, 1);
         CHECK.same("a turn for itself is another one", 0, y.followed(1));
 
-        OriginRally full = withTwoCars(0);
+        Replay full = Setup.withCars(2, 0);
         for (int entry = 0; entry < 30; entry++) {
             full.addEntry(1 + entry / 2, 2);
             full.drive(0, 1 + entry / 2, 2);
@@ -289,7 +275,7 @@ public final class CarTest {
         }
         CHECK.same("thirty entries and one beyond", 30, full.followed(1));
 
-        OriginRally z = withTwoCars(0);
+        Replay z = Setup.withCars(2, 0);
         z.drive(0, 1, 0);
         CHECK.same("without a book", 0, z.followed(0));
         z.addEntry(2, 0);
@@ -298,9 +284,9 @@ public final class CarTest {
     }
 
     private static void promise19CellAt() {
-        OriginRally x = withTwoCars(16 * 4 + 4);
+        Replay x = Setup.withCars(2, 16 * 4 + 4);
         CHECK.same("at first", 16 * 4 + 4, x.cellAt(0, 0));
-        CHECK.refuses("cellAt(0, 1) at first", x, Check.ARGUMENT, () -> x.cellAt(0, 1));
+        CHECK.refuses("cellAt(0, 1) at first", x, Check.ARGUMENT, r -> r.cellAt(0, 1));
         x.drive(0, 2, 1);
         x.stand(0, 2);
         x.drive(0, 2, 1);
@@ -312,11 +298,11 @@ public final class CarTest {
             CHECK.same("cellAt(0, " + minute + ")", due[minute], x.cellAt(0, minute));
         }
         for (int minute : new int[] {-1, due.length, LOWEST, HIGHEST}) {
-            CHECK.refuses("cellAt(0, " + minute + ")", x, Check.ARGUMENT, () -> x.cellAt(0, minute));
+            CHECK.refuses("cellAt(0, " + minute + ")", x, Check.ARGUMENT, r -> r.cellAt(0, minute));
         }
         for (int car : NO_CARS_OF_TWO) {
-            CHECK.refuses("cellAt(" + car + ", 0)", x, Check.INDEX, () -> x.cellAt(car, 0));
-            CHECK.refuses("cellAt(" + car + ", -1)", x, Check.INDEX, () -> x.cellAt(car, -1));
+            CHECK.refuses("cellAt(" + car + ", 0)", x, Check.INDEX, r -> r.cellAt(car, 0));
+            CHECK.refuses("cellAt(" + car + ", -1)", x, Check.INDEX, r -> r.cellAt(car, -1));
         }
         x.stand(0, 1);
         CHECK.same("what was stays", 86, x.cellAt(0, 5));
@@ -324,7 +310,7 @@ public final class CarTest {
     }
 
     private static void promise20Clock() {
-        OriginRally x = withTwoCars(0);
+        Replay x = Setup.withCars(2, 0);
         CHECK.same("at first", 0, x.clock(1));
         x.drive(1, 15, 1);
         CHECK.same("a minute a cell", 15, x.clock(1));
@@ -339,12 +325,12 @@ public final class CarTest {
         CHECK.same("those of mending", 31, x.clock(1));
         CHECK.same("its own", 0, x.clock(0));
         for (int car : NO_CARS_OF_TWO) {
-            CHECK.refuses("clock(" + car + ")", x, Check.INDEX, () -> x.clock(car));
+            CHECK.refuses("clock(" + car + ")", x, Check.INDEX, r -> r.clock(car));
         }
     }
 
     private static void promise28IsBroken() {
-        OriginRally x = withTwoCars(0);
+        Replay x = Setup.withCars(2, 0);
         CHECK.yes("not at first", !x.isBroken(0));
         x.breakDown(1, 0);
         CHECK.yes("broken by the kind 0", x.isBroken(1));
@@ -356,7 +342,7 @@ public final class CarTest {
         x.mend(1);
         CHECK.yes("mended", !x.isBroken(1));
         for (int car : NO_CARS_OF_TWO) {
-            CHECK.refuses("isBroken(" + car + ")", x, Check.INDEX, () -> x.isBroken(car));
+            CHECK.refuses("isBroken(" + car + ")", x, Check.INDEX, r -> r.isBroken(car));
         }
     }
 }

@@ -1,18 +1,29 @@
+import java.util.function.Consumer;
+import java.util.function.Function;
+import java.util.function.Supplier;
+
 /** Compares answers with those that are due, and ends the test with exit code 1 if one differs. */
 final class Check {
     static final Class<IndexOutOfBoundsException> INDEX = IndexOutOfBoundsException.class;
     static final Class<IllegalArgumentException> ARGUMENT = IllegalArgumentException.class;
     static final Class<IllegalStateException> STATE = IllegalStateException.class;
     static final Class<java.util.NoSuchElementException> ELEMENT = java.util.NoSuchElementException.class;
+    static final String THROWS = "throws ";
 
+    private String sentence = "";
     private int asked;
     private int wrong;
+
+    /** The sentence of the document that the answers from here on belong to; it is printed with wrong ones. */
+    void sentence(String place, String words) {
+        sentence = "[" + place + ": " + words + "] ";
+    }
 
     void same(String call, Object due, Object got) {
         asked++;
         if (!due.equals(got)) {
             wrong++;
-            System.out.println(call + " answered " + got + ", due is " + due);
+            System.out.println(sentence + call + " answered " + got + ", due is " + due);
         }
     }
 
@@ -20,25 +31,57 @@ final class Check {
         same(what, true, holds);
     }
 
-    /** The call must throw exactly this exception, and nothing that can be asked may differ behind it. */
-    void refuses(String call, OriginRally rally, Class<? extends RuntimeException> due, Runnable run) {
-        String before = Snapshot.of(rally);
-        same(call, due.getName(), thrownBy(run));
-        same("what is asked behind the refused " + call, before, Snapshot.of(rally));
-    }
-
-    /** What is asked of a rally changes nothing, so two looks at it are the same. */
-    void looksChangeNothing(OriginRally rally) {
-        same("a second look", Snapshot.of(rally), Snapshot.of(rally));
-    }
-
-    private static String thrownBy(Runnable run) {
-        try {
-            run.run();
-            return "nothing";
-        } catch (RuntimeException e) {
-            return e.getClass().getName();
+    /** Both times of a car by its track, at the gates from 0 on. */
+    void passes(Replay rally, int car, int... due) {
+        for (int gate = 0; gate < due.length; gate++) {
+            same("byTrack(" + car + ", " + gate + ")", due[gate], rally.byTrack(car, gate));
+            same("byMinutes(" + car + ", " + gate + ")", due[gate], rally.byMinutes(car, gate));
         }
+    }
+
+    /** The places of the table from 0 on. */
+    void table(Replay rally, int... due) {
+        for (int place = 0; place < due.length; place++) {
+            same("table(" + place + ")", due[place], rally.table(place));
+        }
+    }
+
+    /** The call must throw exactly this exception, and a rally behind it must answer like one without it. */
+    void refuses(String call, Replay rally, Class<? extends RuntimeException> due, Consumer<Replay> refused) {
+        same(call, THROWS + due.getName(), answer(rally, refused));
+        for (Function<Replay, String> probe : Probe.ALL) {
+            Replay without = rally.again();
+            Replay behind = rally.again();
+            answer(behind, refused);
+            same("what is asked behind the refused " + call, probe.apply(without), probe.apply(behind));
+        }
+    }
+
+    /** What is asked of a rally changes nothing, so what it answers behind all questions is the same. */
+    void looksChangeNothing(Replay rally) {
+        for (Function<Replay, String> probe : Probe.ALL) {
+            Replay without = rally.again();
+            Replay behind = rally.again();
+            Probe.asked(behind);
+            Probe.times(behind);
+            same("what is asked again", probe.apply(without), probe.apply(behind));
+        }
+    }
+
+    /** The answer as a text, or the name of what the call throws. */
+    static String answer(Supplier<Object> call) {
+        try {
+            return String.valueOf(call.get());
+        } catch (RuntimeException e) {
+            return THROWS + e.getClass().getName();
+        }
+    }
+
+    private static String answer(Replay rally, Consumer<Replay> call) {
+        return answer(() -> {
+            call.accept(rally);
+            return "nothing";
+        });
     }
 
     void end(String test) {

@@ -73,8 +73,8 @@ public final class RandomRunsTest {
             told.forEach(System.out::println);
         }
         for (int car = 0; car < cars; car++) {
-            for (int gate = 0; gate < rally.gates(); gate++) {
-                passed += rally.byTrack(car, gate) > 0 ? 1 : 0;
+            for (int gate = 0; gate < slow.gates(); gate++) {
+                passed += slow.pass(car, gate) > 0 ? 1 : 0;
             }
         }
     }
@@ -204,10 +204,10 @@ public final class RandomRunsTest {
 
     private void van() {
         int car = number(0, cars);
-        int gate = number(0, rally.gates());
+        int gate = number(0, slow.gates());
         if (inTen(6)) {
-            boolean asItWas = car >= 0 && car < cars && gate >= 0 && gate < rally.gates() && inTen(4);
-            int minute = asItWas ? rally.byTrack(car, gate) : number(0, inTen(3) ? 10001 : 80);
+            boolean asItWas = car >= 0 && car < cars && gate >= 0 && gate < slow.gates() && inTen(4);
+            int minute = asItWas ? slow.pass(car, gate) : number(0, inTen(3) ? 10001 : 80);
             same("record(" + car + ", " + gate + ", " + minute + ")", () -> rally.record(car, gate, minute),
                     () -> slow.record(car, gate, minute));
         } else {
@@ -219,7 +219,7 @@ public final class RandomRunsTest {
 
     private void ask() {
         int car = number(0, cars);
-        int gate = number(0, rally.gates());
+        int gate = number(0, slow.gates());
         int part = number(0, parts);
         String both = "(" + car + ", " + gate + ")";
         switch (below(14)) {
@@ -241,7 +241,7 @@ public final class RandomRunsTest {
     }
 
     private void cellAt(int car) {
-        int clock = car >= 0 && car < cars ? rally.clock(car) : 0;
+        int clock = car >= 0 && car < cars ? slow.clock(car) : 0;
         int minute = number(0, clock + 1);
         same("cellAt(" + car + ", " + minute + ")", () -> rally.cellAt(car, minute),
                 () -> slow.cellAt(car, minute));

@@ -19,31 +19,11 @@ public final class TimeTest {
         promise24ByTrack();
         allTenGates();
         promise25Table();
-        refusedNumbers();
         CHECK.end("TimeTest");
     }
 
-    /** Both times by the track, by pieces and by minutes. */
-    private static void passes(OriginRally x, int car, int... due) {
-        for (int gate = 0; gate < due.length; gate++) {
-            CHECK.same("byTrack(" + car + ", " + gate + ")", due[gate], x.byTrack(car, gate));
-            CHECK.same("byMinutes(" + car + ", " + gate + ")", due[gate], x.byMinutes(car, gate));
-        }
-    }
-
-    /** A book that goes up by one cell an entry, with a gate at each, and one car. */
-    private static OriginRally straight(int entries, int allowed) {
-        OriginRally x = new OriginRally();
-        for (int entry = 0; entry < entries; entry++) {
-            x.addEntry(1, 0);
-            x.addGate(entry, allowed);
-        }
-        x.enter();
-        return x;
-    }
-
     private static void promise13Record() {
-        OriginRally x = straight(2, 0);
+        Replay x = Setup.straight(2, 0);
         x.enter();
         CHECK.same("not passed so far", NONE, x.record(0, 0, 0));
         CHECK.same("in place of what was recorded", 0, x.record(0, 0, 10000));
@@ -55,24 +35,24 @@ public final class TimeTest {
         CHECK.same("what is recorded stays", 7, x.time(0, 0));
         CHECK.same("passed by the track", 2, x.record(0, 1, 3));
         CHECK.same("and recorded then", 3, x.time(0, 1));
-        passes(x, 0, 1, 2);
+        CHECK.passes(x, 0, 1, 2);
         CHECK.same("a recorded time is no passing for later gates", 7, x.record(0, 0, 9000));
-        passes(x, 0, 1, 2);
+        CHECK.passes(x, 0, 1, 2);
     }
 
     private static void promise13Refusals() {
-        OriginRally x = straight(2, 0);
+        Replay x = Setup.straight(2, 0);
         x.record(0, 0, 4);
         for (int minute : new int[] {-1, 10001, LOWEST, HIGHEST}) {
-            CHECK.refuses("record(0, 0, " + minute + ")", x, Check.ARGUMENT, () -> x.record(0, 0, minute));
+            CHECK.refuses("record(0, 0, " + minute + ")", x, Check.ARGUMENT, r -> r.record(0, 0, minute));
         }
-        CHECK.refuses("no car ahead of the minute", x, Check.INDEX, () -> x.record(1, 0, -1));
-        CHECK.refuses("no gate ahead of the minute", x, Check.INDEX, () -> x.record(0, 2, -1));
+        CHECK.refuses("no car ahead of the minute", x, Check.INDEX, r -> r.record(1, 0, -1));
+        CHECK.refuses("no gate ahead of the minute", x, Check.INDEX, r -> r.record(0, 2, -1));
         CHECK.same("nothing was recorded", 4, x.time(0, 0));
     }
 
     private static void promise14Appeal() {
-        OriginRally x = straight(2, 0);
+        Replay x = Setup.straight(2, 0);
         x.record(0, 0, 5);
         CHECK.same("points by the van, and 60", 64, x.points(0));
         CHECK.yes("it had not passed by its track", x.appeal(0, 0));
@@ -95,20 +75,20 @@ public final class TimeTest {
     }
 
     private static void promise14Refusals() {
-        OriginRally x = straight(2, 0);
+        Replay x = Setup.straight(2, 0);
         x.enter();
-        CHECK.refuses("nothing recorded", x, Check.STATE, () -> x.appeal(0, 0));
+        CHECK.refuses("nothing recorded", x, Check.STATE, r -> r.appeal(0, 0));
         x.drive(0, 1, 0);
-        CHECK.refuses("nothing recorded though passed", x, Check.STATE, () -> x.appeal(0, 0));
+        CHECK.refuses("nothing recorded though passed", x, Check.STATE, r -> r.appeal(0, 0));
         x.record(0, 0, 0);
-        CHECK.refuses("recorded at the other gate", x, Check.STATE, () -> x.appeal(0, 1));
-        CHECK.refuses("recorded for the other car", x, Check.STATE, () -> x.appeal(1, 0));
+        CHECK.refuses("recorded at the other gate", x, Check.STATE, r -> r.appeal(0, 1));
+        CHECK.refuses("recorded for the other car", x, Check.STATE, r -> r.appeal(1, 0));
         CHECK.yes("the minute 0 is recorded", x.appeal(0, 0));
-        CHECK.refuses("dropped already", x, Check.STATE, () -> x.appeal(0, 0));
+        CHECK.refuses("dropped already", x, Check.STATE, r -> r.appeal(0, 0));
     }
 
     private static void promises21And22Order() {
-        OriginRally x = new OriginRally();
+        Replay x = new Replay();
         x.setStart(16 * 8 + 8);
         x.addEntry(3, 1);
         x.addEntry(2, 1);
@@ -118,26 +98,26 @@ public final class TimeTest {
             x.addGate(entry, 0);
         }
         x.enter();
-        passes(x, 0, NONE, NONE, NONE, 0);
+        CHECK.passes(x, 0, NONE, NONE, NONE, 0);
         x.stand(0, 4);
         x.drive(0, 3, 1);
-        passes(x, 0, 7, NONE, NONE, NONE);
+        CHECK.passes(x, 0, 7, NONE, NONE, NONE);
         x.drive(0, 2, 1);
-        passes(x, 0, 7, 9, NONE, NONE);
+        CHECK.passes(x, 0, 7, 9, NONE, NONE);
         x.stand(0, 2);
         x.drive(0, 3, 1);
-        passes(x, 0, 7, 9, 14, NONE);
+        CHECK.passes(x, 0, 7, 9, 14, NONE);
         x.drive(0, 2, 1);
-        passes(x, 0, 7, 9, 14, 16);
+        CHECK.passes(x, 0, 7, 9, 14, 16);
         x.drive(0, 3, 1);
-        passes(x, 0, 7, 9, 14, 16);
+        CHECK.passes(x, 0, 7, 9, 14, 16);
         x.enter();
         x.drive(1, 5, 2);
-        passes(x, 1, 3, NONE, NONE, NONE);
+        CHECK.passes(x, 1, 3, NONE, NONE, NONE);
     }
 
     private static void promises21And22MissedGates() {
-        OriginRally x = new OriginRally();
+        Replay x = new Replay();
         x.addEntry(2, 1);
         x.addEntry(3, 2);
         x.addEntry(3, 1);
@@ -149,11 +129,11 @@ public final class TimeTest {
         x.enter();
         // The gate 1 is missed; the gate 2 lies in the cell of the gate 0, and is passed in the same minute.
         x.drive(0, 2, 0);
-        passes(x, 0, 2, NONE, 2, NONE);
+        CHECK.passes(x, 0, 2, NONE, 2, NONE);
         x.drive(0, 4, 0);
-        passes(x, 0, 2, NONE, 2, 6);
+        CHECK.passes(x, 0, 2, NONE, 2, 6);
         // Without the gate 0 nothing holds the later ones back.
-        OriginRally y = new OriginRally();
+        Replay y = new Replay();
         y.setStart(5);
         y.addEntry(4, 2);
         y.addEntry(3, 0);
@@ -163,50 +143,50 @@ public final class TimeTest {
         y.addGate(2, 0);
         y.enter();
         y.drive(0, 1, 2);
-        passes(y, 0, NONE, 1, NONE);
+        CHECK.passes(y, 0, NONE, 1, NONE);
         y.drive(0, 2, 0);
-        passes(y, 0, NONE, 1, 3);
+        CHECK.passes(y, 0, NONE, 1, 3);
     }
 
     private static void promises21And22LaterPass() {
-        OriginRally x = new OriginRally();
+        Replay x = new Replay();
         x.addEntry(3, 2);
         x.addEntry(1, 0);
         x.addGate(0, 0);
         x.addGate(1, 0);
         x.enter();
         x.drive(0, 2, 0);
-        passes(x, 0, NONE, 2);
+        CHECK.passes(x, 0, NONE, 2);
         x.drive(0, 1, 2);
-        passes(x, 0, 3, NONE);
+        CHECK.passes(x, 0, 3, NONE);
         x.stand(0, 9);
         x.drive(0, 2, 0);
-        passes(x, 0, 3, 13);
+        CHECK.passes(x, 0, 3, 13);
         x.addEntry(2, 0);
         x.addGate(2, 0);
-        passes(x, 0, 3, 13, NONE);
+        CHECK.passes(x, 0, 3, 13, NONE);
         x.drive(0, 1, 0);
-        passes(x, 0, 3, 13, 15);
+        CHECK.passes(x, 0, 3, 13, 15);
     }
 
     private static void promises21And22Edges() {
-        OriginRally x = new OriginRally();
+        Replay x = new Replay();
         x.setStart(16 * 3 + 3);
         x.addEntry(1, 2);
         x.addEntry(1, 2);
         x.addGate(1, 0);
         x.enter();
-        passes(x, 0, 0);
+        CHECK.passes(x, 0, 0);
         x.stand(0, 5);
         x.drive(0, 1, 2);
-        passes(x, 0, 0);
+        CHECK.passes(x, 0, 0);
         x.enter();
         x.drive(1, 0, 1);
-        passes(x, 1, 0);
+        CHECK.passes(x, 1, 0);
         x.drive(1, 2, 2);
-        passes(x, 1, 0);
+        CHECK.passes(x, 1, 0);
 
-        OriginRally y = new OriginRally();
+        Replay y = new Replay();
         y.addEntry(5, 1);
         y.addEntry(5, 2);
         y.addEntry(2, 0);
@@ -216,12 +196,12 @@ public final class TimeTest {
         y.enter();
         y.drive(0, 15, 2);
         y.drive(0, 10, 3);
-        passes(y, 0, 5, NONE, NONE);
+        CHECK.passes(y, 0, 5, NONE, NONE);
         y.drive(0, 15, 2);
         // It saw the cell of the gate 2 two minutes ahead of that of the gate 1.
-        passes(y, 0, 5, 30, NONE);
+        CHECK.passes(y, 0, 5, 30, NONE);
         y.drive(0, 15, 0);
-        passes(y, 0, 5, 30, 52);
+        CHECK.passes(y, 0, 5, 30, 52);
         y.enter();
         // Standing in a gate's cell: the minute is the first in it that the gate ahead leaves.
         y.drive(1, 5, 1);
@@ -229,10 +209,10 @@ public final class TimeTest {
         y.drive(1, 5, 2);
         y.stand(1, 3);
         y.drive(1, 5, 0);
-        passes(y, 1, 5, 50, 55);
+        CHECK.passes(y, 1, 5, 50, 55);
         CHECK.same("its clock", 58, y.clock(1));
 
-        OriginRally z = new OriginRally();
+        Replay z = new Replay();
         z.addEntry(4, 2);
         z.addEntry(2, 2);
         z.addEntry(2, 0);
@@ -241,21 +221,21 @@ public final class TimeTest {
         z.enter();
         z.drive(0, 4, 0);
         z.stand(0, 6);
-        passes(z, 0, 4, 4);
+        CHECK.passes(z, 0, 4, 4);
         CHECK.looksChangeNothing(z);
     }
 
     private static void promise23Time() {
-        OriginRally x = straight(2, 0);
+        Replay x = Setup.straight(2, 0);
         CHECK.same("not passed", NONE, x.time(0, 0));
         x.drive(0, 1, 0);
         CHECK.same("by the track", 1, x.time(0, 0));
         x.record(0, 0, 30);
         CHECK.same("by the van", 30, x.time(0, 0));
-        passes(x, 0, 1, NONE);
+        CHECK.passes(x, 0, 1, NONE);
         x.record(0, 1, 0);
         CHECK.same("by the van though not passed", 0, x.time(0, 1));
-        passes(x, 0, 1, NONE);
+        CHECK.passes(x, 0, 1, NONE);
         x.appeal(0, 0);
         CHECK.same("by the track again", 1, x.time(0, 0));
         x.appeal(0, 1);
@@ -263,7 +243,7 @@ public final class TimeTest {
     }
 
     private static void promise24Points() {
-        OriginRally x = straight(3, 10);
+        Replay x = Setup.straight(3, 10);
         CHECK.same("absent at all", 180, x.points(0));
         x.stand(0, 10);
         x.drive(0, 3, 0);
@@ -280,7 +260,7 @@ public final class TimeTest {
     }
 
     private static void promise24Limits() {
-        OriginRally x = straight(1, 100);
+        Replay x = Setup.straight(1, 100);
         x.record(0, 0, 101 + 59);
         CHECK.same("59 late", 59, x.points(0));
         x.record(0, 0, 101 + 60);
@@ -299,7 +279,7 @@ public final class TimeTest {
         CHECK.same("far too early", 60, x.points(0));
         x.record(0, 0, 101);
         CHECK.same("in time", 0, x.points(0));
-        OriginRally y = straight(10, 0);
+        Replay y = Setup.straight(10, 0);
         CHECK.same("all ten are missed", 600, y.points(0));
         y.drive(0, 1, 0);
         y.record(0, 0, 1);
@@ -308,7 +288,7 @@ public final class TimeTest {
     }
 
     private static void promise24ByTrack() {
-        OriginRally x = new OriginRally();
+        Replay x = new Replay();
         x.addEntry(3, 2);
         x.addEntry(1, 0);
         x.addEntry(2, 0);
@@ -327,7 +307,7 @@ public final class TimeTest {
         x.record(0, 0, 10000);
         CHECK.same("a recorded time holds no gate back", 60 + 5 + 5, x.points(0));
 
-        OriginRally y = new OriginRally();
+        Replay y = new Replay();
         y.addEntry(1, 2);
         y.addEntry(1, 2);
         y.addGate(1, 0);
@@ -338,7 +318,7 @@ public final class TimeTest {
     }
 
     private static void allTenGates() {
-        OriginRally x = straight(10, 0);
+        Replay x = Setup.straight(10, 0);
         x.drive(0, 10, 0);
         for (int gate = 0; gate < 10; gate++) {
             CHECK.same("by the track at " + gate, gate + 1, x.record(0, gate, 20 + gate));
@@ -350,72 +330,49 @@ public final class TimeTest {
         for (int gate = 9; gate >= 0; gate--) {
             int asked = gate;
             CHECK.yes("appeal at " + gate, x.appeal(0, gate));
-            CHECK.refuses("appeal again at " + gate, x, Check.STATE, () -> x.appeal(0, asked));
+            CHECK.refuses("appeal again at " + gate, x, Check.STATE, r -> r.appeal(0, asked));
             CHECK.same("points then", 19 * gate, x.points(0));
         }
         for (int gate : new int[] {-1, 10, 11, LOWEST, HIGHEST}) {
-            CHECK.refuses("byTrack(0, " + gate + ") of ten", x, Check.INDEX, () -> x.byTrack(0, gate));
-            CHECK.refuses("byMinutes(0, " + gate + ") of ten", x, Check.INDEX, () -> x.byMinutes(0, gate));
-            CHECK.refuses("time(0, " + gate + ") of ten", x, Check.INDEX, () -> x.time(0, gate));
-            CHECK.refuses("record(0, " + gate + ", 1) of ten", x, Check.INDEX, () -> x.record(0, gate, 1));
-            CHECK.refuses("appeal(0, " + gate + ") of ten", x, Check.INDEX, () -> x.appeal(0, gate));
-        }
-    }
-
-    private static void table(OriginRally x, int... due) {
-        for (int place = 0; place < due.length; place++) {
-            CHECK.same("table(" + place + ")", due[place], x.table(place));
+            CHECK.refuses("byTrack(0, " + gate + ") of ten", x, Check.INDEX, r -> r.byTrack(0, gate));
+            CHECK.refuses("byMinutes(0, " + gate + ") of ten", x, Check.INDEX, r -> r.byMinutes(0, gate));
+            CHECK.refuses("time(0, " + gate + ") of ten", x, Check.INDEX, r -> r.time(0, gate));
+            CHECK.refuses("record(0, " + gate + ", 1) of ten", x, Check.INDEX, r -> r.record(0, gate, 1));
+            CHECK.refuses("appeal(0, " + gate + ") of ten", x, Check.INDEX, r -> r.appeal(0, gate));
         }
     }
 
     private static void promise25Table() {
-        OriginRally x = straight(1, 50);
+        Replay x = Setup.straight(1, 50);
         CHECK.same("one car", 0, x.table(0));
-        CHECK.refuses("table(1) of one", x, Check.INDEX, () -> x.table(1));
+        CHECK.refuses("table(1) of one", x, Check.INDEX, r -> r.table(1));
         x.enter();
         x.enter();
         x.enter();
-        table(x, 0, 1, 2, 3);
+        CHECK.table(x, 0, 1, 2, 3);
         x.record(2, 0, 51);
-        table(x, 2, 0, 1, 3);
+        CHECK.table(x, 2, 0, 1, 3);
         x.record(3, 0, 50);
-        table(x, 2, 3, 0, 1);
+        CHECK.table(x, 2, 3, 0, 1);
         x.record(1, 0, 53);
-        table(x, 2, 1, 3, 0);
+        CHECK.table(x, 2, 1, 3, 0);
         x.record(0, 0, 51);
-        table(x, 0, 2, 1, 3);
+        CHECK.table(x, 0, 2, 1, 3);
         x.cut(0);
-        table(x, 0, 1, 2, 3);
+        CHECK.table(x, 0, 1, 2, 3);
         x.drive(0, 1, 0);
         x.record(0, 0, 1);
         x.appeal(0, 0);
-        table(x, 1, 2, 3, 0);
+        CHECK.table(x, 1, 2, 3, 0);
         for (int place : new int[] {-1, 4, 8, LOWEST, HIGHEST}) {
-            CHECK.refuses("table(" + place + ")", x, Check.INDEX, () -> x.table(place));
+            CHECK.refuses("table(" + place + ")", x, Check.INDEX, r -> r.table(place));
         }
         for (int car = 4; car < 8; car++) {
             x.enter();
         }
-        table(x, 1, 2, 3, 4, 5, 6, 7, 0);
+        CHECK.table(x, 1, 2, 3, 4, 5, 6, 7, 0);
         x.cut(1);
-        table(x, 2, 1, 3, 4, 5, 6, 7, 0);
-        CHECK.refuses("table(8) of eight", x, Check.INDEX, () -> x.table(8));
-    }
-
-    private static void refusedNumbers() {
-        OriginRally x = straight(2, 0);
-        for (int wrong : new int[] {-2, -1, 2, 10, LOWEST, HIGHEST}) {
-            CHECK.refuses("record, car " + wrong, x, Check.INDEX, () -> x.record(wrong, 0, 0));
-            CHECK.refuses("record, gate " + wrong, x, Check.INDEX, () -> x.record(0, wrong, 0));
-            CHECK.refuses("appeal, car " + wrong, x, Check.INDEX, () -> x.appeal(wrong, 0));
-            CHECK.refuses("appeal, gate " + wrong, x, Check.INDEX, () -> x.appeal(0, wrong));
-            CHECK.refuses("byTrack, car " + wrong, x, Check.INDEX, () -> x.byTrack(wrong, 0));
-            CHECK.refuses("byTrack, gate " + wrong, x, Check.INDEX, () -> x.byTrack(0, wrong));
-            CHECK.refuses("byMinutes, car " + wrong, x, Check.INDEX, () -> x.byMinutes(wrong, 0));
-            CHECK.refuses("byMinutes, gate " + wrong, x, Check.INDEX, () -> x.byMinutes(0, wrong));
-            CHECK.refuses("time, car " + wrong, x, Check.INDEX, () -> x.time(wrong, 0));
-            CHECK.refuses("time, gate " + wrong, x, Check.INDEX, () -> x.time(0, wrong));
-            CHECK.refuses("points, car " + wrong, x, Check.INDEX, () -> x.points(wrong));
-        }
+        CHECK.table(x, 2, 1, 3, 4, 5, 6, 7, 0);
+        CHECK.refuses("table(8) of eight", x, Check.INDEX, r -> r.table(8));
     }
 }
