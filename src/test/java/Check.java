@@ -53,7 +53,7 @@ final class Check {
             Replay without = rally.again();
             Replay behind = rally.again();
             answer(behind, refused);
-            same("what is asked behind the refused " + call, probe.apply(without), probe.apply(behind));
+            sameLines("what is asked behind the refused " + call, probe.apply(without), probe.apply(behind));
         }
     }
 
@@ -64,8 +64,19 @@ final class Check {
             Replay behind = rally.again();
             Probe.asked(behind);
             Probe.times(behind);
-            same("what is asked again", probe.apply(without), probe.apply(behind));
+            sameLines("what is asked again", probe.apply(without), probe.apply(behind));
         }
+    }
+
+    /** Compares texts, but tells no more than the first line that differs. */
+    private void sameLines(String what, String due, String got) {
+        String[] dueLines = due.split("\n");
+        String[] gotLines = got.split("\n");
+        int line = 0;
+        while (line < dueLines.length - 1 && line < gotLines.length - 1 && dueLines[line].equals(gotLines[line])) {
+            line++;
+        }
+        same(what + ", line " + line, due.equals(got) ? "" : dueLines[line], due.equals(got) ? "" : gotLines[line]);
     }
 
     /** The answer as a text, or the name of what the call throws. */
