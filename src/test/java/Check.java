@@ -68,15 +68,23 @@ final class Check {
         }
     }
 
-    /** Compares texts, but tells no more than the first line that differs. */
+    /** Compares texts, but tells no more of them than the first line that differs. */
     private void sameLines(String what, String due, String got) {
+        if (due.equals(got)) {
+            same(what, "", "");
+            return;
+        }
         String[] dueLines = due.split("\n");
         String[] gotLines = got.split("\n");
         int line = 0;
-        while (line < dueLines.length - 1 && line < gotLines.length - 1 && dueLines[line].equals(gotLines[line])) {
+        while (lineOf(dueLines, line).equals(lineOf(gotLines, line)) && line < dueLines.length) {
             line++;
         }
-        same(what + ", line " + line, due.equals(got) ? "" : dueLines[line], due.equals(got) ? "" : gotLines[line]);
+        same(what + ", line " + line, "'" + lineOf(dueLines, line) + "'", lineOf(gotLines, line));
+    }
+
+    private static String lineOf(String[] lines, int number) {
+        return number < lines.length ? lines[number] : "no such line";
     }
 
     /** The answer as a text, or the name of what the call throws. */
