@@ -21,7 +21,8 @@ public final class LanguageTest {
     private static final String[] FORBIDDEN = {
         "->", "::", "\\bpackage\\b", "\\bfinally\\b", "\\bsynchronized\\b", "\\bassert\\b", "\\bvolatile\\b",
         "\\bnative\\b", "\\bprotected\\b", "\\bstatic\\s*\\{", "\\w+Exact\\(", "\\bSystem\\.(?!arraycopy)",
-        "\\bThread\\b", "\\bObject\\b", "\\bvar\\b", "@(?!interface)", "\\b(equals|hashCode|toString|getMessage)\\s*\\(\\s*\\)"};
+        "\\bThread\\b", "\\bObject\\b", "\\bvar\\b", "@(?!interface)",
+        "\\b(equals|hashCode|toString|getMessage)\\s*\\(\\s*\\)"};
 
     private static final Set<String> EXCEPTIONS = Set.of("IllegalStateException", "IllegalArgumentException",
             "IndexOutOfBoundsException", "ArithmeticException", "UnsupportedOperationException",
